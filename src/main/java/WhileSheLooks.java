@@ -757,7 +757,6 @@ public final class WhileSheLooks {
 
         int addChild(int itsKind, int itsNumber) {
             int child = size;
-            // An undo leaves what a later child had in this place.
             kind[child] = itsKind;
             v[child] = itsNumber;
             at[child] = 0;

@@ -204,6 +204,13 @@ public final class BestTest {
         x.set(1, 0, 30);
         due("AT of the first", x.on(2, 10), 0);
         due("were the second there, it would be AT 16", x.shield(0, 1, 2), -16);
+        WhileSheLooks y = Yards.with("sees 1", 0, 8, 4, 8, 0, 8);
+        y.set(0, 0, 30);
+        y.set(2, 0, 39);
+        y.turn();
+        y.set(0, 0, 30);
+        y.set(1, 0, 0);
+        due("a third who is there stays there", y.shield(1, 0, 1), 24);
     }
 
     private static void refused() {
@@ -236,5 +243,9 @@ public final class BestTest {
         due("shield(0, 0, 1)", x.shield(0, 0, 1), -1002);
         due("shield(0, 1, 0)", x.shield(0, 1, 0), -1002);
         due("shield(0, 1, 21)", x.shield(0, 1, 21), -1002);
+        due("shield(0, 1, 20)", x.shield(0, 1, 20), 0);
+        due("needs(0, 8)", x.needs(0, 8), 0);
+        due("held(0, 20)", x.held(0, 20), 0);
+        due("look(20)", x.look(20), -5);
     }
 }

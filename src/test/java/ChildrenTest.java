@@ -347,6 +347,12 @@ public final class ChildrenTest {
         due("SHARP without one", x.told(2), 3);
         due("SEES without one", x.told(3), 9);
         due("SHAKE by the new one alone", x.of(0, 8), 3);
+        for (int i = 0; i < 4; i++) {
+            due("many TESTs and a FAULT",
+                Yards.read(x, "wobble 1 c=0&c=0&c=0&c=0&c=0&c=0&c=0&c=0&c=0&c=0&c=0&c=0&c=0&"), -71);
+        }
+        due("the next number", Yards.read(x, "wobble 5 c=1|c=0&!k=1"), 2);
+        due("SHAKE by this one alone", x.of(0, 8), 7);
     }
 
     private static void yardAndTheWall() {

@@ -9,6 +9,8 @@ public final class RestTest {
         judgeRefused();
         image();
         undoAll();
+        undoRows();
+        undoSent();
         undoWhatIsKept();
         undoYards();
         undoThenAnother();
@@ -135,6 +137,43 @@ public final class RestTest {
         due("the BOOK", x.looked(), 0);
         x.set(0, 0, 7);
         due("the BOOK", x.looked(), -5);
+    }
+
+    private static void undoRows() {
+        // As many rows come anew, and others: undo brings the old ones back.
+        WhileSheLooks x = Yards.with("", 0, 8, 0, 0);
+        x.book(0, 8);
+        x.book(1, 4);
+        x.see(0, 1, 8);
+        x.see(1, 2, 8);
+        x.image();
+        x.book(-1, 0);
+        x.book(1, 0);
+        x.book(0, 0);
+        x.see(-1, 0, 0);
+        x.see(1, 2, 9);
+        x.see(0, 3, 1);
+        due("by the new BOOK", x.looked(), -5);
+        due("by what is new of SEEN", x.since(), 0);
+        x.undo();
+        due("by the old SEEN", x.since(), 15);
+        due("by the old BOOK", x.looked(), 0);
+        x.set(0, 0, 8);
+        due("its first row is so", x.looked(), 1);
+        x.set(1, 0, 4);
+        due("both are", x.looked(), -5);
+    }
+
+    private static void undoSent() {
+        WhileSheLooks x = Yards.with("", 4, 8);
+        x.turn();
+        x.image();
+        x.turn();
+        x.turn();
+        due("SENT", x.of(0, 4), 3);
+        x.undo();
+        due("SENT then", x.of(0, 4), 1);
+        due("EARLY then", x.of(0, 3), 1);
     }
 
     private static void undoWhatIsKept() {
@@ -309,11 +348,13 @@ public final class RestTest {
         due("tape(0, 0, MIN)", x.tape(0, 0, MIN), -14);
         due("nothing yet", x.item(0, 0, 0), -11);
         due("tape(0, 0, 60)", x.tape(0, 0, 60), 1);
+        due("item(0, 0, 1)", x.item(0, 0, 1), 1);
         due("item(0, 59, 1)", x.item(0, 59, 1), 1);
         due("refused", x.tape(0, 0, 61), -2);
         due("it stays", x.read(0, 59), 1);
         due("anew", x.tape(0, 0, 60), 1);
-        due("all 0", x.read(0, 59), 0);
+        due("all 0 at its begin", x.read(0, 0), 0);
+        due("all 0 at its end", x.read(0, 59), 0);
         due("shorter", x.tape(0, 2, 2), 1);
         due("no such place", x.read(0, 2), NO);
         due("empty", x.tape(0, 3, 0), 1);

@@ -125,6 +125,10 @@ public final class SeenTest {
         odds(x, 20, 1, 1);
         due("TURN stays", x.told(0), 1);
         due("SENT stays", x.of(0, 4), 1);
+        WhileSheLooks later = Yards.with("wobble 20 t>1&t<6", 0, 8);
+        odds(later, 1, 1, 2);
+        odds(later, 2, 1, 4);
+        odds(later, 3, 0, 1);
     }
 
     private static void oddsEnds() {

@@ -9,6 +9,7 @@ public final class TurnsTest {
         turnSees();
         turnLooksAtTheRest();
         turnBySharp();
+        turnAtLast();
         on();
         onRefused();
         touches();
@@ -119,6 +120,22 @@ public final class TurnsTest {
         due("both", none.turn(), 3);
         due("SENT of one", none.of(0, 4), 1);
         due("SENT of the other", none.of(1, 4), 1);
+    }
+
+    /** No object is used for so many calls: but this is the only way to see that TURN ends. */
+    private static void turnAtLast() {
+        WhileSheLooks x = Yards.with("", 4, 8);
+        for (int i = 0; i < 9999; i++) {
+            x.turn();
+        }
+        due("TURN", x.told(0), 9999);
+        due("SENT", x.of(0, 4), 9999);
+        due("turn() at last", x.turn(), -3);
+        due("TURN then", x.told(0), 9999);
+        due("what is asked goes on", x.on(40, 1), 1);
+        x.set(0, 0, 16);
+        due("and on", x.on(1, 0), 1);
+        due("TURN then", x.told(0), 9999);
     }
 
     private static void on() {
