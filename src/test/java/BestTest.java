@@ -210,6 +210,7 @@ public final class BestTest {
         y.turn();
         y.set(0, 0, 30);
         y.set(1, 0, 0);
+        Yards.read(y, "sees 1;far 60");
         due("a third who is there stays there", y.shield(1, 0, 1), 24);
     }
 

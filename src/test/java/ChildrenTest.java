@@ -412,6 +412,13 @@ public final class ChildrenTest {
         holds("t=0", 0, 0, 1, 10, true);
         holds("t=1", 0, 0, 1, 11, true);
         holds("t>9", 0, 0, 1, 11, false);
+        for (char letter : "ckebat".toCharArray()) {
+            holds(letter + "<99", 0, 0, 1, 0, true);
+            holds(letter + "=99", 0, 0, 1, 0, false);
+            holds(letter + ">99", 0, 0, 1, 0, false);
+            holds(letter + "<0", 0, 0, 1, 0, false);
+            holds(letter + "<00", 0, 0, 1, 0, false);
+        }
         holds("c=01", 0, 0, 1, 0, true);
         holds("c<10", 0, 0, 1, 0, true);
     }

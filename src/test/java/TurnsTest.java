@@ -218,10 +218,15 @@ public final class TurnsTest {
         x.set(2, 0, 39);
         x.turn();
         due("who is there now is not asked for", x.first(), 1);
+        x.set(0, 0, 16);
+        due("the first of all, at once", x.first(), 0);
+        x.set(0, 0, 0);
         x.set(1, 1, 9);
         due("slower than none", x.first(), 3);
         x.set(3, 1, 9);
         due("nobody gets there", x.first(), -5);
+        WhileSheLooks seven = Yards.with("", 0, 0, 0, 0, 0, 0, 0, 0, 0, 0, 0, 0, 0, 8);
+        due("the seventh", seven.first(), 6);
         WhileSheLooks all = Yards.with("far 1", 0, 8);
         all.turn();
         due("all are there", all.first(), -5);
