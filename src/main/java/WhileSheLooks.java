@@ -1054,29 +1054,29 @@ public final class WhileSheLooks {
 
         /** Reads E within so many ( and !. */
         boolean readEither(int around) {
-            if (!readBoth(around)) {
-                return false;
-            }
-            for (int i = 0; i < MOST_BYTES && skip('|'); i++) {
-                if (!readBoth(around)) {
-                    return false;
-                }
-                addCode(OR);
-            }
-            return true;
-        }
-
-        boolean readBoth(int around) {
-            if (!readPart(around)) {
-                return false;
-            }
-            for (int i = 0; i < MOST_BYTES && skip('&'); i++) {
+            boolean joinsBoth = false;
+            boolean joinsEither = false;
+            for (int i = 0; i < MOST_BYTES; i++) {
                 if (!readPart(around)) {
                     return false;
                 }
-                addCode(AND);
+                if (joinsBoth) {
+                    addCode(AND);
+                }
+                joinsBoth = skip('&');
+                if (joinsBoth) {
+                    continue;
+                }
+                // All that & joins stands in the codes by now, so | joins what has been joined.
+                if (joinsEither) {
+                    addCode(OR);
+                }
+                joinsEither = skip('|');
+                if (!joinsEither) {
+                    return true;
+                }
             }
-            return true;
+            return false;
         }
 
         boolean readPart(int around) {
