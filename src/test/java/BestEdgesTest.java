@@ -133,6 +133,9 @@ public final class BestEdgesTest {
         RUNS.says("were it there now (not at THE WALL)")
             .go("child(0, 8) set(0, 0, 39) turn()=0 told(4)=1 needs(0, 1)=32 needs(0, 2)=24 needs(0, 5)=0 told(4)=1 of(0, 2)=40")
             .go("set(0, 1, 9) needs(0, 8)=NEVER");
+        RUNS.says("NEEDS: one who is at THE WALL takes no look there, one who stands AT as much does")
+            .go("child(0, 8) child(4, 8) set(0, 0, 39) turn()=2 set(0, 1, 9) yard{far 60;sees 1} of(0, 2)=40 of(0, 5)=1")
+            .go("needs(1, 1)=36 needs(1, 2)=36 set(0, 0, 40) of(0, 5)=0 needs(1, 1)=36 needs(1, 2)=12");
         RUNS.says("NEEDS: the others go on too")
             .go("child(4, 8) child(0, 8) set(1, 0, 39) set(1, 1, 9) yard{sees 1} needs(0, 2)=0 set(1, 0, 0) needs(0, 2)=16");
     }

@@ -115,6 +115,9 @@ public final class TurnsEdgesTest {
     }
 
     private static void turn() {
+        RUNS.says("turn: who was sent back, as bits: in this TURN alone")
+            .go("child(4, 8) child(4, 8) turn()=3 turn()=3 set(0, 1, 9) turn()=2 of(0, 4)=2 set(1, 1, 8) turn()=0 of(1, 4)=3")
+            .go("of(0, 2)=0 of(1, 2)=0 of(0, 3)=9 of(1, 3)=8");
         RUNS.says("turn: who was sent back, as bits")
             .go("turn()=0 told(0)=1 child(4, 8) child(0, 8) child(4, 8) turn()=5 told(0)=2 child(0, 8) child(0, 8)")
             .go("child(0, 8) child(4, 8) turn()=69 told(0)=3");
